@@ -1,7 +1,7 @@
 import java.util.List;
 import java.util.SplittableRandom;
 
-/** Promises 5, 6, 7 and 11: word, span, fraction, tries. */
+/** Promises 5, 6, 7 and 11, ordinary calls: word, span, fraction, tries. */
 public final class DrawsTest {
     private static final long SEED = 20261116L;
     private static final long KEY = Model.keyOf(List.of(7L, -2L));
@@ -13,12 +13,9 @@ public final class DrawsTest {
         wordsAsTheLibraryHasThem();
         spans();
         spansThatTryAgain();
-        wrongSpans();
         fractions();
         longFractions();
         oddsOfFractions();
-        wrongFractions();
-        triesStay();
         Due.end();
     }
 
@@ -35,12 +32,6 @@ public final class DrawsTest {
                     Model.wordOf(SEED, run, KEY, counter));
                 Due.is("status()", x.status(), 0);
             }
-        }
-        int[] none = {-1, 1, 24, Integer.MIN_VALUE, Integer.MAX_VALUE};
-        for (int path : none) {
-            x.word(0, 0, 0);
-            Due.is("word of path " + path, x.word(0, path, 0), 0);
-            Due.is("status()", x.status(), -1);
         }
         Due.is("tries() behind words", x.tries(), 0);
     }
@@ -80,20 +71,6 @@ public final class DrawsTest {
             }
         }
         Due.holds("one of the spans needs more than 6 words", most > 6);
-    }
-
-    private static void wrongSpans() {
-        NamedStreams x = fresh();
-        Due.is("n = 0", x.span(0, 0, 0, 0), -4);
-        Due.is("n = -1", x.span(0, 0, 0, -1), -1);
-        Due.is("n least", x.span(0, 0, 0, Long.MIN_VALUE), -1);
-        Due.is("c = -1", x.span(0, 0, -1, 5), -1);
-        Due.is("c least", x.span(0, 0, Integer.MIN_VALUE, 5), -1);
-        Due.is("path -1", x.span(0, -1, 0, 5), -1);
-        Due.is("path 1", x.span(0, 1, 0, 5), -1);
-        Due.is("n = 0, no path: ZERO is named first", x.span(0, 1, 0, 0), -4);
-        Due.is("n = 0, c = -1: ZERO is named first", x.span(0, 0, -1, 0), -4);
-        Due.is("tries()", x.tries(), 0);
     }
 
     private static void fractions() {
@@ -167,70 +144,5 @@ public final class DrawsTest {
             }
         }
         Due.holds("1 of 3 comes about 10000 times of 30000, not " + so, so > 9600 && so < 10400);
-    }
-
-    private static void wrongFractions() {
-        NamedStreams x = fresh();
-        Due.is("b = 0", x.fraction(0, 0, 0, 0, 0), -4);
-        Due.is("b = 0, a = 1: a is not 0 to b", x.fraction(0, 0, 0, 1, 0), -1);
-        Due.is("b = 0, no path", x.fraction(0, 1, 0, 0, 0), -1);
-        Due.is("a = -1", x.fraction(0, 0, 0, -1, 5), -1);
-        Due.is("a = 6 of 5", x.fraction(0, 0, 0, 6, 5), -1);
-        Due.is("b = -1", x.fraction(0, 0, 0, 0, -1), -1);
-        Due.is("a = b = -1", x.fraction(0, 0, 0, -1, -1), -1);
-        Due.is("a = -2, b = -1", x.fraction(0, 0, 0, -2, -1), -1);
-        Due.is("b least", x.fraction(0, 0, 0, 0, Long.MIN_VALUE), -1);
-        Due.is("a least", x.fraction(0, 0, 0, Long.MIN_VALUE, 5), -1);
-        Due.is("c = -1", x.fraction(0, 0, -1, 1, 5), -1);
-        Due.is("path -1", x.fraction(0, -1, 0, 1, 5), -1);
-        Due.is("path 1, a = b", x.fraction(0, 1, 0, 5, 5), -1);
-        Due.is("tries()", x.tries(), 0);
-    }
-
-    private static void triesStay() {
-        NamedStreams x = fresh();
-        int c = 0;
-        while (Model.spanOf(SEED, 0, KEY, c, THIRD)[1] != 4) {
-            c++;
-        }
-        x.span(0, 0, c, THIRD);
-        Due.is("tries()", x.tries(), 4);
-        x.span(0, 0, c, 0);
-        x.span(0, 0, c, -5);
-        x.span(0, 9, c, 5);
-        x.fraction(0, 0, c, 0, 0);
-        x.fraction(0, 0, c, 7, 5);
-        x.word(0, 0, 0);
-        x.pick(0, 0, 0);
-        x.permuted(0, 0, 0, 1, 0);
-        x.permuted(0, 0, 0, 41, 0);
-        x.permuted(0, 0, 0, 0, 0);
-        x.next(0, 5);
-        x.nextPick(0);
-        x.weight(0, Long.MAX_VALUE);
-        x.weight(1, 1);
-        x.pick(0, 0, 0);
-        x.counted(3, 3, 0);
-        Due.is("tries() behind what draws nothing", x.tries(), 4);
-        x.permuted(0, 0, 0, 2, 0);
-        Due.is("tries() behind a permutation", x.tries(), 1);
-        x.span(0, 0, c, THIRD);
-        x.fraction(0, 0, c, 5, 5);
-        Due.is("tries() behind a fraction without a bit", x.tries(), 0);
-        x.weight(0, THIRD);
-        x.weight(1, 0);
-        x.pick(0, 0, c);
-        Due.is("tries() behind a pick", x.tries(), 4);
-        x.fraction(0, 0, c, 0, 5);
-        Due.is("tries() behind the fraction 0", x.tries(), 0);
-        x.open(0, 0);
-        x.skip(0, c);
-        x.keep(0, 0);
-        x.next(0, THIRD);
-        Due.is("tries() behind next", x.tries(), 4);
-        x.fraction(0, 0, c, 0, 5);
-        x.back(0);
-        x.nextPick(0);
-        Due.is("tries() behind nextPick", x.tries(), 4);
     }
 }

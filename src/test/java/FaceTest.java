@@ -3,7 +3,7 @@ import java.lang.reflect.Method;
 import java.lang.reflect.Modifier;
 import java.nio.file.Files;
 import java.nio.file.Path;
-import java.util.Arrays;
+import java.util.List;
 import java.util.Set;
 import java.util.TreeSet;
 import java.util.regex.Matcher;
@@ -86,10 +86,12 @@ public final class FaceTest {
     private static void text() throws Exception {
         String text = Files.readString(Path.of("src/main/java/NamedStreams.java"));
         String code = text.replaceAll("(?s)/\\*.*?\\*/", "").replaceAll("//.*", "");
-        for (String word : Arrays.asList("throw", "try", "catch", "synchronized", "assert", "import", "package",
-            "->", "::", "Exact", "System", "Thread", "Random", "protected")) {
-            Matcher found = Pattern.compile(Character.isLetter(word.charAt(0)) ? "\\b" + word + "\\b" : word).matcher(code);
-            Due.holds("the text has no " + word, !found.find());
+        for (String form : List.of("\\b(throw|throws|try|catch|synchronized|assert|protected|package)\\b", "::",
+            "Exact\\b", "\\bSystem\\.(?!arraycopy\\b)", "\\b(Thread|Random|Object)\\b", "[^\\x00-\\xFF]",
+            "\\bimport\\s+(?!java\\.util\\.(ArrayList|List|Arrays|Iterator)\\s*;)", "\\bstatic\\s*\\{",
+            "(?m)^(?!\\s*(case|default)\\b).*->")) {
+            Matcher found = Pattern.compile(form).matcher(code);
+            Due.holds("the text has nothing of the form " + form, !found.find());
         }
     }
 }
