@@ -1,15 +1,19 @@
 import java.util.Random;
 
-/** All promises: runs of 512 calls, each answer against the one of the model, with odd arguments among them. */
+/** All promises: runs of up to 512 calls, each answer against the one of the model, with odd arguments among them. */
 public final class ModelTest {
     private static final long[] ODD = {0, 1, -1, 2, -4, 31, 32, 1L << 32, 1L << 61, 1L << 62, (1L << 62) + 1,
         6148914691236517205L, 6148914691236517206L, Long.MAX_VALUE - 1, Long.MAX_VALUE, Long.MIN_VALUE};
     private static final int[] PLACES = {0, 1, -1, 7, 67108864, 2147483606, 2147483607, 2147483608, 2147483646,
         2147483647, -2147483648};
 
+    /** An object's answers are free behind 512 calls; the last ones compare all. */
+    private static final int CALLS = 420;
+
     private final Random random;
     private final NamedStreams x;
     private final Model model;
+    private int calls = 0;
 
     private ModelTest(long number) {
         random = new Random(number);
@@ -19,14 +23,25 @@ public final class ModelTest {
     }
 
     public static void main(String[] args) {
-        for (int run = 0; run < 3000 && Due.wrongSoFar() == 0; run++) {
+        int withAllPaths = 0;
+        int withAllStreams = 0;
+        for (int run = 0; run < 4000 && Due.wrongSoFar() == 0; run++) {
             ModelTest test = new ModelTest(run);
-            for (int call = 0; call < 508; call++) {
-                test.call("run " + run + " call " + call + ": ", test.random.nextInt(19));
+            while (test.calls < CALLS) {
+                test.call("run " + run + " call " + test.calls + ": ", test.someKind(run));
             }
             test.compareAll("run " + run + " at its end: ");
+            withAllPaths += test.model.count(0) == 24 ? 1 : 0;
+            withAllStreams += test.model.count(1) == 8 ? 1 : 0;
         }
+        Due.holds("many runs come to all paths: " + withAllPaths, withAllPaths > 500);
+        Due.holds("many runs come to all streams: " + withAllStreams, withAllStreams > 500);
         Due.end();
+    }
+
+    private int someKind(int run) {
+        // half of the calls of each third run are part() and path(), so that all paths come to be there
+        return run % 3 == 0 && random.nextBoolean() ? random.nextInt(2) : random.nextInt(19);
     }
 
     private long someLong() {
@@ -63,8 +78,12 @@ public final class ModelTest {
         } else {
             streamCall(at, kind);
         }
-        Due.is(at + "tries() behind kind " + kind, x.tries(), model.tries());
-        Due.is(at + "status() behind kind " + kind, x.status(), model.status());
+        calls++;
+        if (random.nextInt(4) == 0) {
+            Due.is(at + "tries() behind kind " + kind, x.tries(), model.tries());
+            Due.is(at + "status() behind kind " + kind, x.status(), model.status());
+            calls += 2;
+        }
     }
 
     private void drawCall(String at, int kind) {
@@ -116,7 +135,7 @@ public final class ModelTest {
         int k = about(4);
         switch (kind) {
             case 9:
-                if (random.nextInt(6) == 0) {
+                if (random.nextInt(2) == 0) {
                     long run = someLong();
                     int path = about(model.count(0));
                     Due.is(at + "open(" + run + ", " + path + ")", x.open(run, path), model.open(run, path));
@@ -131,7 +150,7 @@ public final class ModelTest {
                 Due.is(at + "nextPick(" + stream + ")", x.nextPick(stream), model.nextPick(stream));
                 break;
             case 13:
-                if (random.nextInt(4) == 0) {
+                if (random.nextInt(2) == 0) {
                     Due.is(at + "split(" + stream + ")", x.split(stream), model.split(stream));
                 }
                 break;
