@@ -1,15 +1,10 @@
 import java.lang.reflect.Field;
 import java.lang.reflect.Method;
 import java.lang.reflect.Modifier;
-import java.nio.file.Files;
-import java.nio.file.Path;
-import java.util.List;
 import java.util.Set;
 import java.util.TreeSet;
-import java.util.regex.Matcher;
-import java.util.regex.Pattern;
 
-/** The public face of the document, and the rules of LANGUAGE.md that a text can be searched for. */
+/** The public face of the document, and no other member that can be seen. */
 public final class FaceTest {
     private static final Set<String> METHODS = Set.of(
         "int part(long)", "int path()", "long key(int)", "long word(long,int,long)",
@@ -23,7 +18,6 @@ public final class FaceTest {
         constants();
         methods();
         others();
-        text();
         Due.end();
     }
 
@@ -80,18 +74,6 @@ public final class FaceTest {
         for (Class<?> inside : face.getDeclaredClasses()) {
             Due.holds(inside + " is static", Modifier.isStatic(inside.getModifiers()));
             Due.holds(inside + " is not public", !Modifier.isPublic(inside.getModifiers()));
-        }
-    }
-
-    private static void text() throws Exception {
-        String text = Files.readString(Path.of("src/main/java/NamedStreams.java"));
-        String code = text.replaceAll("(?s)/\\*.*?\\*/", "").replaceAll("//.*", "");
-        for (String form : List.of("\\b(throw|throws|try|catch|synchronized|assert|protected|package)\\b", "::",
-            "Exact\\b", "\\bSystem\\.(?!arraycopy\\b)", "\\b(Thread|Random|Object)\\b", "[^\\x00-\\xFF]",
-            "\\bimport\\s+(?!java\\.util\\.(ArrayList|List|Arrays|Iterator)\\s*;)", "\\bstatic\\s*\\{",
-            "(?m)^(?!\\s*(case|default)\\b).*->")) {
-            Matcher found = Pattern.compile(form).matcher(code);
-            Due.holds("the text has nothing of the form " + form, !found.find());
         }
     }
 }

@@ -1,13 +1,8 @@
 import java.lang.reflect.Method;
-import java.net.URL;
-import java.net.URLClassLoader;
 import java.nio.file.Files;
 import java.nio.file.Path;
-import java.util.Comparator;
 import java.util.regex.Matcher;
 import java.util.regex.Pattern;
-import java.util.stream.Stream;
-import javax.tools.ToolProvider;
 
 /**
  * NONE of draws: promises 6, 7, 9, 10, 11, 14 and 15. No place is known whose 32 words come to NONE, so these
@@ -44,12 +39,12 @@ public final class NoneTest {
         try {
             String text = Files.readString(Path.of("src/main/java/NamedStreams.java"));
             String zero = withNumber(text, G, "0L");
-            oneWord = compiled(zero, folder.resolve("one"));
+            oneWord = copy(zero, folder.resolve("one"));
             String row = withNumber(withNumber(withNumber(text, G, "1L"), FIRST, "1L"), SECOND, "1L");
-            wordsInARow = compiled(row, folder.resolve("row"));
+            wordsInARow = copy(row, folder.resolve("row"));
             testAll();
         } finally {
-            delete(folder);
+            Compiled.delete(folder);
         }
         Due.end();
     }
@@ -270,29 +265,9 @@ public final class NoneTest {
         return told.replaceAll(other);
     }
 
-    private static Class<?> compiled(String text, Path folder) throws Exception {
-        Files.createDirectories(folder);
-        Path copy = folder.resolve("NamedStreams.java");
-        Files.writeString(copy, text);
-        int failed = ToolProvider.getSystemJavaCompiler().run(null, null, null, "-d", folder.toString(), copy.toString());
-        Due.is("javac", failed, 0);
-        URL[] where = {folder.toUri().toURL()};
-        try (URLClassLoader loader = new URLClassLoader(where, ClassLoader.getPlatformClassLoader())) {
-            Class<?> face = loader.loadClass("NamedStreams");
-            // the loader is shut then, so the classes inside are loaded now
-            for (Class<?> inside : face.getDeclaredClasses()) {
-                Class.forName(inside.getName(), true, loader);
-            }
-            return face;
-        }
-    }
-
-    private static void delete(Path folder) throws Exception {
-        try (Stream<Path> all = Files.walk(folder)) {
-            for (Path path : all.sorted(Comparator.reverseOrder()).toList()) {
-                Files.delete(path);
-            }
-        }
+    private static Class<?> copy(String text, Path folder) throws Exception {
+        // not the test's own loader, which would find the class itself first
+        return Compiled.of("NamedStreams", text, folder, ClassLoader.getPlatformClassLoader());
     }
 
     private long ask(String name, Object... arguments) throws Exception {
