@@ -63,6 +63,7 @@ public final class ReadmeTest {
     }
 
     private static void calls() {
+        Due.is("constructor in README.md", matches("(?m)^`NamedStreams\\(long \\w+\\)` "), 1);
         int found = 0;
         for (Method method : NamedStreams.class.getDeclaredMethods()) {
             if (Modifier.isPublic(method.getModifiers())) {
